@@ -47,7 +47,7 @@ public final class PackageKeeper {
     public int release() {
         reader.open();
         Release made = reader.readRelease(index.nextNumber());
-        if (!emptiesTape() || made == null) {
+        if (!finishTape() || made == null) {
             return FAULT;
         }
         if (index.hasOneLike(made)) {
@@ -75,7 +75,7 @@ public final class PackageKeeper {
         reader.open();
         long name = reader.readName();
         Range range = name == Reader.NO_NAME ? null : reader.readRange();
-        if (!emptiesTape() || range == null) {
+        if (!finishTape() || range == null) {
             return FAULT;
         }
         if (!roots.put(name, range)) {
@@ -88,7 +88,7 @@ public final class PackageKeeper {
     public int unwant() {
         reader.open();
         long name = reader.readName();
-        if (!emptiesTape() || name == Reader.NO_NAME) {
+        if (!finishTape() || name == Reader.NO_NAME) {
             return FAULT;
         }
         int place = roots.placeOf(name);
@@ -175,7 +175,7 @@ public final class PackageKeeper {
     public int owner() {
         reader.open();
         String path = reader.readPath();
-        if (!emptiesTape() || path == null) {
+        if (!finishTape() || path == null) {
             return FAULT;
         }
         Generation top = history.top();
@@ -191,7 +191,7 @@ public final class PackageKeeper {
         reader.open();
         Version left = reader.readVersion();
         Version right = left == null ? null : reader.readVersion();
-        if (!emptiesTape() || left == null || right == null) {
+        if (!finishTape() || left == null || right == null) {
             return FAULT;
         }
         return left.against(right);
@@ -201,7 +201,7 @@ public final class PackageKeeper {
         reader.open();
         Version version = reader.readVersion();
         Range range = version == null ? null : reader.readRange();
-        if (!emptiesTape() || version == null || range == null) {
+        if (!finishTape() || version == null || range == null) {
             return FAULT;
         }
         return range.has(version) ? 1 : 0;
@@ -226,8 +226,8 @@ public final class PackageKeeper {
         }
     }
 
-    /** Whether the reader had come to the tape's end: words left over make any text a fault. */
-    private boolean emptiesTape() {
+    /** Empties the tape; whether the reader had come to its end: words left over make any text a fault. */
+    private boolean finishTape() {
         boolean whole = reader.isAtEnd();
         tape.cutTo(0);
         return whole;

@@ -24,6 +24,7 @@ public final class PromisesTest {
         bestByWords();
         bestByNeedsAndBreaks();
         bestByReach();
+        bestOfAnOddRing();
         bestOfMany();
         currentOrder();
         steps();
@@ -173,6 +174,7 @@ public final class PromisesTest {
         }
         Check.release(keeper, "h 9.0.0", 31);
         Check.due("releases", keeper.count(0), 32);
+        Check.release(keeper, "b 9.0.1", PackageKeeper.FULL);
         Check.release(keeper, "h 9.0.1", PackageKeeper.FULL);
         Check.release(keeper, "i 9.0.1", PackageKeeper.FULL);
         Check.release(keeper, "h 9.0.0 owns p", PackageKeeper.THERE);
@@ -480,6 +482,31 @@ public final class PromisesTest {
         // Then b, which is in, leads to them.
         Check.release(keeper, "b 2.0.0 needs y *", 7);
         Check.bestIs(keeper, 4, 7, 5, 6);
+    }
+
+    /** Each release fits some of every other name, but only trying tells that no three fit together. */
+    private static void bestOfAnOddRing() {
+        PackageKeeper keeper = new PackageKeeper();
+        Check.release(keeper, "a 1.0.0 needs b 2.0.0", 0);
+        Check.release(keeper, "a 2.0.0 needs b 1.0.0", 1);
+        Check.release(keeper, "b 1.0.0 needs c 2.0.0", 2);
+        Check.release(keeper, "b 2.0.0 needs c 1.0.0", 3);
+        Check.release(keeper, "c 1.0.0 needs a 2.0.0", 4);
+        Check.release(keeper, "c 2.0.0 needs a 1.0.0", 5);
+        Check.want(keeper, "a *", 1);
+        Check.due("best(-1)", keeper.best(-1), PackageKeeper.NONE);
+        Check.due("best(0)", keeper.best(0), PackageKeeper.NONE);
+        Check.install(keeper, 0, -1, PackageKeeper.NONE);
+        Check.release(keeper, "b 0.1.0 needs c 2.0.0 || 1.0.0", 6);
+        Check.due("best(-1)", keeper.best(-1), PackageKeeper.NONE);
+        Check.release(keeper, "a 0.1.0 needs b 0.1.0 || 3.0.0", 7);
+        Check.due("best(-1)", keeper.best(-1), PackageKeeper.NONE);
+        Check.release(keeper, "c 0.1.0 needs a <1.0.0 || >2.0.0", 8);
+        Check.due("best(-1)", keeper.best(-1), PackageKeeper.NONE);
+        Check.release(keeper, "b 3.0.0 needs c 0.1.0", 9);
+        Check.bestIs(keeper, 7, 9, 8);
+        Check.install(keeper, 0, -1, 3);
+        Check.currentIs(keeper, 7, 0, 9, 0, 8, 0);
     }
 
     private static void bestOfMany() {
