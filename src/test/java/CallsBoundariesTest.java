@@ -1,4 +1,4 @@
-/** "An object is used for at most 512 calls": all of them answer as due, the last one too. Promises 1 and 16 (count). */
+/** "An object is used for at most 512 calls": all of them answer as due. Also promises 1 and 16 (count). */
 public final class CallsBoundariesTest {
     private static final int LEAST = Integer.MIN_VALUE;
     private static final int MOST = Integer.MAX_VALUE;
@@ -70,7 +70,8 @@ public final class CallsBoundariesTest {
 
     /** "REFUSED for others": what is one below the least and one above the most. */
     private static void countsAtTheirEdges() {
-        Probe probe = Probe.withReleases("a 1.0.0", "a 1.0.1", "b 1.0.0 needs c *", "c 1.0.0", "c 1.0.1").wanting("b *");
+        Probe probe = Probe.withReleases("a 1.0.0", "a 1.0.1", "b 1.0.0 needs c *", "c 1.0.0", "c 1.0.1")
+                .wanting("b *");
         probe.install(0, -1, 2);
         probe.put("1.0.0 1.0.1");
         int[] others = {LEAST, LEAST + 1, -2, -1, 6, 7, 256, MOST - 1, MOST};

@@ -27,6 +27,7 @@ public final class GenerationBoundariesTest {
         currentSetWithoutARoot();
         currentSetNotReached();
         currentSetDropped();
+        currentSetDroppedFromAFullIndex();
         currentSetThatOtherReleasesBreak();
         emptySetStays();
         setsOfNoughtToEight();
@@ -336,6 +337,32 @@ public final class GenerationBoundariesTest {
         probe.currentIs(3, 0, 5, 1);
     }
 
+    /** The same with 32 releases, of which the one alike is among the first or the last by names. */
+    private static void currentSetDroppedFromAFullIndex() {
+        String[] names = {"a", "b", "c", "d", "e", "f", "g", "h"};
+        for (int end = 0; end < 8; end += 7) {
+            Probe probe = Probe.withReleases(names[end] + " 1.0.0").wanting(names[end] + " *");
+            probe.install(0, -1, 1);
+            probe.drop(0, 0);
+            probe.release(names[end] + " 1.0.0", 1);
+            for (int number = 2; number <= 32; number++) {
+                probe.release(names[number % 8] + " 0.9." + number, number);
+            }
+            probe.count(0, 32);
+            probe.install(0, -1, 1);
+            probe.currentIs(1, 0);
+            // Now a higher one is in the index, but what is current was not dropped.
+            probe.drop(16 + end, 31);
+            probe.release(names[end] + " 2.0.0", 33);
+            probe.install(0, -1, 1);
+            probe.currentIs(1, 0);
+            probe.drop(1, 31);
+            probe.release(names[end] + " 1.0.0", 34);
+            probe.install(0, -1, 1);
+            probe.currentIs(33, 0);
+        }
+    }
+
     /** Only what is in the set, and the roots, tell whether it is valid. */
     private static void currentSetThatOtherReleasesBreak() {
         Probe probe = Probe.withReleases("a 1.0.0", "b 1.0.0").wanting("a *", "b *");
@@ -575,7 +602,8 @@ public final class GenerationBoundariesTest {
 
     /** "The release of the current generation that owns the TAPE ... NONE if there is none". */
     private static void ownerOfTheCurrentOne() {
-        Probe probe = Probe.withReleases("b 1.0.0 owns p1 owns p2 owns p3 owns p4", "a 1.0.0 needs b * owns p5", "c 1.0.0");
+        Probe probe = Probe.withReleases("b 1.0.0 owns p1 owns p2 owns p3 owns p4", "a 1.0.0 needs b * owns p5",
+                "c 1.0.0");
         probe.owner("p1", NONE);
         probe.want("a *", 1);
         probe.owner("p1", NONE);

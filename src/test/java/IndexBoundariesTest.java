@@ -30,6 +30,7 @@ public final class IndexBoundariesTest {
         rootInPlaceOfOne();
         wantTexts();
         unwantTexts();
+        unwantLeavesTheOthers();
         refusedWantChangesNothing();
         refusedUnwantChangesNothing();
         Check.finish();
@@ -362,8 +363,8 @@ public final class IndexBoundariesTest {
     /** "The TAPE, NAME RANGE ... FAULT if it is not that", ahead of FULL. */
     private static void wantTexts() {
         String[] faults = {"", "a", "*", "* a", "1.0.0", "a 1", "a * b", "a b *", "a a *", "a * ||", "a || *", "a ||",
-            "a * needs", "a * needs b *", "a * breaks b *", "a * owns p", "a needs b *", "needs *", "breaks *", "owns *",
-            "A *", "abcdefghi *", "a ^", "a =", "a 1.0.0 1.0.0 1.0.0 1.0.0 1.0.0", "a * || * || * || * || *"};
+            "a * needs", "a * needs b *", "a * breaks b *", "a * owns p", "a needs b *", "needs *", "breaks *",
+            "owns *", "A *", "abcdefghi *", "a ^", "a =", "a 1.0.0 1.0.0 1.0.0 1.0.0 1.0.0", "a * || * || * || * || *"};
         for (String fault : faults) {
             new Probe().want(fault, FAULT);
         }
@@ -400,6 +401,29 @@ public final class IndexBoundariesTest {
         Probe other = Probe.withReleases("a 1.0.0 needs b *", "b 1.0.0").wanting("a *");
         other.unwant("b", NONE);
         other.bestIs(0, 1);
+    }
+
+    /** The other roots stay, each with its range, whichever of six goes. */
+    private static void unwantLeavesTheOthers() {
+        for (int gone = 0; gone < 6; gone++) {
+            Probe probe = new Probe();
+            for (int n = 0; n < 6; n++) {
+                for (int v = 0; v < 5; v++) {
+                    probe.release(NAMES[n] + " 1.0." + v, 5 * n + v);
+                }
+            }
+            for (int n = 0; n < 6; n++) {
+                probe.want(NAMES[n] + " <=1.0." + n % 5, n + 1);
+            }
+            probe.best(-1, 6);
+            probe.unwant(NAMES[gone], 5);
+            probe.best(-1, 5);
+            for (int n = 0; n < 6; n++) {
+                if (n != gone) {
+                    probe.best(n < gone ? n : n - 1, 5 * n + n % 5);
+                }
+            }
+        }
     }
 
     private static void refusedWantChangesNothing() {

@@ -14,7 +14,8 @@ final class Model {
     private static final int REFUSED = -1, NONE = -2, FULL = -3, THERE = -4, CUT = -5, FAULT = -6, CLASH = -7;
     private static final String NUM = "(?:0|[1-9][0-9]{0,8})";
     private static final String MARK = "(?:0|[1-9][0-9]{0,7}|(?=[0-9]*[A-Za-z-])[A-Za-z0-9-]{1,8})";
-    private static final String VERSION = NUM + "\\." + NUM + "\\." + NUM + "(?:-" + MARK + "(?:\\." + MARK + "){0,3})?";
+    private static final String VERSION = NUM + "\\." + NUM + "\\." + NUM
+            + "(?:-" + MARK + "(?:\\." + MARK + "){0,3})?";
     private static final String TEST = "(?:\\*|(?:=|<|<=|>|>=|\\^|~|)" + VERSION + ")";
     private static final String CHOICE = TEST + "(?: " + TEST + "){0,3}";
     private static final String RANGE = CHOICE + "(?: \\|\\| " + CHOICE + "){0,3}";
@@ -269,7 +270,8 @@ final class Model {
         String[] as = a.split("-", 2);
         String[] bs = b.split("-", 2);
         for (int i = 0; i < 3; i++) {
-            int order = Integer.compare(Integer.parseInt(as[0].split("\\.")[i]), Integer.parseInt(bs[0].split("\\.")[i]));
+            int order = Integer.compare(Integer.parseInt(as[0].split("\\.")[i]),
+                    Integer.parseInt(bs[0].split("\\.")[i]));
             if (order != 0) {
                 return order;
             }

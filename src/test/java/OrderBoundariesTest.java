@@ -26,6 +26,7 @@ public final class OrderBoundariesTest {
         twoCirclesThatShareOne();
         circlesSideBySide();
         leastNameOfThoseReady();
+        circleWaitsForWhatAnyOfItNeeds();
         needsBeforeWhatNeedsThem();
         breaksAreNoNeeds();
         needsByNameWhateverTheRange();
@@ -212,18 +213,18 @@ public final class OrderBoundariesTest {
 
     /** "of several the one in which the least name of them all is; in a circle by names". */
     private static void circlesSideBySide() {
-        installed(4, Probe.withReleases("a 1.0.0 needs d *", "b 1.0.0 needs c *", "c 1.0.0 needs b *", "d 1.0.0 needs a *")
-                .wanting("a *", "b *")).currentIs(0, 0, 3, 0, 1, 1, 2, 1);
-        installed(4, Probe.withReleases("a 1.0.0 needs c *", "b 1.0.0 needs d *", "c 1.0.0 needs a *", "d 1.0.0 needs b *")
-                .wanting("d *", "c *")).currentIs(0, 0, 2, 0, 1, 1, 3, 1);
+        installed(4, Probe.withReleases("a 1.0.0 needs d *", "b 1.0.0 needs c *", "c 1.0.0 needs b *",
+                "d 1.0.0 needs a *").wanting("a *", "b *")).currentIs(0, 0, 3, 0, 1, 1, 2, 1);
+        installed(4, Probe.withReleases("a 1.0.0 needs c *", "b 1.0.0 needs d *", "c 1.0.0 needs a *",
+                "d 1.0.0 needs b *").wanting("d *", "c *")).currentIs(0, 0, 2, 0, 1, 1, 3, 1);
         // The greatest name of all stands before others for the sake of the least one.
         installed(3, Probe.withReleases("z 1.0.0 needs a *", "b 1.0.0", "a 1.0.0 needs z *").wanting("z *", "b *"))
                 .currentIs(2, 0, 0, 0, 1, 1);
         installed(3, Probe.withReleases("z 1.0.0 needs b *", "a 1.0.0", "b 1.0.0 needs z *").wanting("z *", "a *"))
                 .currentIs(1, 0, 2, 1, 0, 1);
         // Names by bytes, as they came in or not.
-        installed(4, Probe.withReleases("b 1.0.0", "ab 1.0.0", "aa 1.0.0", "a 1.0.0").wanting("a *", "b *", "aa *", "ab *"))
-                .currentIs(3, 0, 2, 1, 1, 2, 0, 3);
+        installed(4, Probe.withReleases("b 1.0.0", "ab 1.0.0", "aa 1.0.0", "a 1.0.0")
+                .wanting("a *", "b *", "aa *", "ab *")).currentIs(3, 0, 2, 1, 1, 2, 0, 3);
     }
 
     /** "one that needs nothing outside itself and the circles before it in the set". */
@@ -234,16 +235,35 @@ public final class OrderBoundariesTest {
         // a is ready as soon as b is placed, and is before c then.
         installed(3, Probe.withReleases("a 1.0.0 needs b *", "b 1.0.0", "c 1.0.0").wanting("a *", "c *"))
                 .currentIs(1, 0, 0, 1, 2, 2);
-        // A circle waits as a whole for what one of it needs.
-        installed(4, Probe.withReleases("a 1.0.0 needs b *", "b 1.0.0 needs a * needs d *", "c 1.0.0", "d 1.0.0")
-                .wanting("a *", "c *")).currentIs(2, 0, 3, 1, 0, 2, 1, 2);
+    }
+
+    /** A circle waits as a whole for what one of it needs, whichever of it that is and whatever its name is. */
+    private static void circleWaitsForWhatAnyOfItNeeds() {
+        for (int step = 1; step <= 2; step++) {
+            for (int needing = 0; needing < 3; needing++) {
+                String[] texts = new String[5];
+                for (int n = 0; n < 3; n++) {
+                    texts[n] = NAMES[2 * n + 1] + " 1.0.0 needs " + NAMES[2 * ((n + step) % 3) + 1] + " *";
+                }
+                texts[3] = "z 1.0.0";
+                texts[4] = "c 1.0.0";
+                String circle = texts[needing];
+                texts[needing] = circle + " needs z *";
+                installed(5, Probe.withReleases(texts).wanting("d *", "c *")).currentIs(4, 0, 3, 1, 0, 2, 1, 2, 2, 2);
+                texts[needing] = circle + " needs c *";
+                installed(5, Probe.withReleases(texts).wanting("d *", "z *")).currentIs(4, 0, 0, 1, 1, 1, 2, 1, 3, 2);
+                texts[3] = "a 1.0.0";
+                texts[needing] = circle + " needs a *";
+                installed(5, Probe.withReleases(texts).wanting("f *", "c *")).currentIs(3, 0, 0, 1, 1, 1, 2, 1, 4, 2);
+            }
+        }
     }
 
     private static void needsBeforeWhatNeedsThem() {
-        installed(4, Probe.withReleases("a 1.0.0 needs b * needs c *", "b 1.0.0 needs d *", "c 1.0.0 needs d *", "d 1.0.0")
-                .wanting("a *")).currentIs(3, 0, 1, 1, 2, 2, 0, 3);
-        installed(4, Probe.withReleases("d 1.0.0 needs b * needs c *", "b 1.0.0 needs a *", "c 1.0.0 needs a *", "a 1.0.0")
-                .wanting("d *")).currentIs(3, 0, 1, 1, 2, 2, 0, 3);
+        installed(4, Probe.withReleases("a 1.0.0 needs b * needs c *", "b 1.0.0 needs d *", "c 1.0.0 needs d *",
+                "d 1.0.0").wanting("a *")).currentIs(3, 0, 1, 1, 2, 2, 0, 3);
+        installed(4, Probe.withReleases("d 1.0.0 needs b * needs c *", "b 1.0.0 needs a *", "c 1.0.0 needs a *",
+                "a 1.0.0").wanting("d *")).currentIs(3, 0, 1, 1, 2, 2, 0, 3);
         // The sixth needs counts as the first does.
         installed(7, Probe.withReleases("a 1.0.0 needs b * needs c * needs d * needs e * needs f * needs g *",
                 "b 1.0.0", "c 1.0.0", "d 1.0.0", "e 1.0.0", "f 1.0.0", "g 1.0.0").wanting("a *"))
@@ -303,8 +323,8 @@ public final class OrderBoundariesTest {
 
     /** "in the opposite order of the first; then those of the other ... in its order": in circles too. */
     private static void goingInOppositeOrder() {
-        Probe probe = installed(4, Probe.withReleases("a 1.0.0 needs d *", "b 1.0.0 needs a *", "c 1.0.0", "d 1.0.0 needs a *")
-                .wanting("b *", "c *"));
+        Probe probe = installed(4, Probe.withReleases("a 1.0.0 needs d *", "b 1.0.0 needs a *", "c 1.0.0",
+                "d 1.0.0 needs a *").wanting("b *", "c *"));
         probe.currentIs(0, 0, 3, 0, 1, 1, 2, 2);
         probe.stepsAre(0, 1, 3, 1, 1, 1, 2, 1);
         probe.unwant("b", 1);
@@ -346,7 +366,8 @@ public final class OrderBoundariesTest {
 
     /** "Of the steps of the latest install or rollback that was done". */
     private static void stepsOfTheLatestThatWasDone() {
-        Probe probe = installed(1, Probe.withReleases("a 1.0.0 owns p", "a 2.0.0", "b 1.0.0 owns p").wanting("a <2.0.0"));
+        Probe probe = installed(1, Probe.withReleases("a 1.0.0 owns p", "a 2.0.0", "b 1.0.0 owns p")
+                .wanting("a <2.0.0"));
         probe.want("a *", 1);
         int[] cuts = {0, 1, MOST};
         for (int cut : cuts) {

@@ -4,7 +4,8 @@ import java.util.Random;
 public final class RandomRunsTest {
     private static final int CALLS = 512;
     private static final String[] NAMES = {"a", "b", "c", "d", "ab", "abc", "zzzzzzzz", "need", "e", "f"};
-    private static final String[] MARKS = {"0", "1", "10", "2", "a", "A", "ab", "-", "a-1", "1a", "99999999", "zzzzzzzz"};
+    private static final String[] MARKS = {"0", "1", "10", "2", "a", "A", "ab", "-", "a-1", "1a", "99999999",
+        "zzzzzzzz"};
     private static final String[] SIGNS = {"", "=", "<", "<=", ">", ">=", "^", "~"};
     private static final String[] PATHS = {"p", "q", "bin/a", "needs", "A-1./x", "abcdefghijklmnopqrst", "r", "s", "t"};
     private static final String SPOILERS = " .-|*<>=^~0129azAZ_/\0\t\u00ff";

@@ -115,9 +115,9 @@ public final class ReleaseBoundariesTest {
 
     /** "RELEASE, a text: NAME VERSION, then ...". */
     private static void nameAndVersion() {
-        String[] faults = {"", "a", "1.0.0", "1.0.0 a", "a a", "a a 1.0.0", "a 1.0.0 1.0.0", "a 1.0.0 a", "a 1.0.0 b 1.0.0",
-            "a 1.0.0 *", "a =1.0.0", "a ^1.0.0", "a *", "a || 1.0.0", "a 1.0.0 ||", "a needs b *", "needs b *",
-            "a needs b * 1.0.0", "owns p", "a owns p"};
+        String[] faults = {"", "a", "1.0.0", "1.0.0 a", "a a", "a a 1.0.0", "a 1.0.0 1.0.0", "a 1.0.0 a",
+            "a 1.0.0 b 1.0.0", "a 1.0.0 *", "a =1.0.0", "a ^1.0.0", "a *", "a || 1.0.0", "a 1.0.0 ||", "a needs b *",
+            "needs b *", "a needs b * 1.0.0", "owns p", "a owns p"};
         for (String fault : faults) {
             new Probe().release(fault, FAULT);
         }
@@ -227,8 +227,8 @@ public final class ReleaseBoundariesTest {
 
     private static void wholeClauses() {
         String[] faults = {"needs", "breaks", "owns", "needs b", "breaks b", "needs *", "breaks *", "needs * b",
-            "needs 1.0.0", "need b *", "needss b *", "Needs b *", "NEEDS b *", "Owns p", "own p", "break b *", "b *", "p",
-            "needs b * c", "needs b c *", "needs b * *c", "needs b c", "owns p q", "owns p *", "owns p ||",
+            "needs 1.0.0", "need b *", "needss b *", "Needs b *", "NEEDS b *", "Owns p", "own p", "break b *", "b *",
+            "p", "needs b * c", "needs b c *", "needs b * *c", "needs b c", "owns p q", "owns p *", "owns p ||",
             "needs b * || needs c *", "needs b needs c *", "needs b owns p", "needs needs *", "breaks breaks *",
             "needs owns p", "|| needs b *", "needs b * ||", "needs b || *"};
         for (String fault : faults) {

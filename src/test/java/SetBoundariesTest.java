@@ -97,7 +97,8 @@ public final class SetBoundariesTest {
         Probe probe = Probe.withReleases("a 1.2.3");
         probe.want("a 1.2.3", 1);
         probe.bestIs(0);
-        String[] without = {"1.2.2", "1.2.4", ">1.2.3", "<1.2.3", "<=1.2.3-z", ">=1.2.4-0", "^1.2.4-0", "~1.1.9", "^2.0.0"};
+        String[] without = {"1.2.2", "1.2.4", ">1.2.3", "<1.2.3", "<=1.2.3-z", ">=1.2.4-0", "^1.2.4-0", "~1.1.9",
+            "^2.0.0"};
         for (String range : without) {
             probe.want("a " + range, 1);
             probe.hasNoValidSet();
@@ -190,8 +191,8 @@ public final class SetBoundariesTest {
     /** "for no breaks of one in it one of that name in its range": from the first to the third. */
     private static void noneForBreaks() {
         for (int n = 1; n <= 4; n++) {
-            Probe probe = Probe.withReleases("a 1.0.0 breaks b * breaks c * breaks d *", "b 1.0.0", "c 1.0.0", "d 1.0.0",
-                    "e 1.0.0").wanting("a *", NAMES[n] + " *");
+            Probe probe = Probe.withReleases("a 1.0.0 breaks b * breaks c * breaks d *", "b 1.0.0", "c 1.0.0",
+                    "d 1.0.0", "e 1.0.0").wanting("a *", NAMES[n] + " *");
             probe.best(-1, n == 4 ? 2 : NONE);
         }
         // A name that is in no set, or not in the index, breaks nothing.
@@ -285,8 +286,8 @@ public final class SetBoundariesTest {
         probe.bestIs(1);
         probe.drop(1, 2);
         probe.bestIs(2, 0);
-        Probe five = Probe.withReleases("b 5.0.0 needs a *", "b 4.0.0 needs a *", "b 3.0.0 needs a *", "b 2.0.0 needs a *",
-                "b 1.0.0", "a 1.0.0").wanting("b *");
+        Probe five = Probe.withReleases("b 5.0.0 needs a *", "b 4.0.0 needs a *", "b 3.0.0 needs a *",
+                "b 2.0.0 needs a *", "b 1.0.0", "a 1.0.0").wanting("b *");
         five.bestIs(4);
         five.want("b >1.0.0", 1);
         five.bestIs(5, 0);
@@ -332,8 +333,8 @@ public final class SetBoundariesTest {
 
     /** "else the one with the higher version". */
     private static void betterByTheHigherVersion() {
-        String[] rising = {"0.0.0-0", "0.0.0", "0.9.0", "0.10.0", "1.0.0-1", "1.0.0-2", "1.0.0-10", "1.0.0-A", "1.0.0-a",
-            "1.0.0-a.0", "1.0.0", "999999999.0.0"};
+        String[] rising = {"0.0.0-0", "0.0.0", "0.9.0", "0.10.0", "1.0.0-1", "1.0.0-2", "1.0.0-10", "1.0.0-A",
+            "1.0.0-a", "1.0.0-a.0", "1.0.0", "999999999.0.0"};
         for (int i = 1; i < rising.length; i++) {
             Probe.withReleases("a " + rising[i - 1], "a " + rising[i]).wanting("a *").bestIs(1);
             Probe.withReleases("a " + rising[i], "a " + rising[i - 1]).wanting("a *").bestIs(0);
@@ -354,7 +355,8 @@ public final class SetBoundariesTest {
         int number = 0;
         for (int n = 0; n < 6; n++) {
             for (int v = 4; v >= 0; v--) {
-                probe.release(NAMES[n] + " 1.0." + v + " needs " + NAMES[(n + 1) % 6] + " <1.0." + Math.max(v, 1), number);
+                String needs = " needs " + NAMES[(n + 1) % 6] + " <1.0." + Math.max(v, 1);
+                probe.release(NAMES[n] + " 1.0." + v + needs, number);
                 number++;
             }
         }
