@@ -174,13 +174,13 @@ public final class PackageKeeper {
 
     public int owner() {
         reader.open();
-        String path = reader.readPath();
+        long[] path = reader.readPath();
         if (!finishTape() || path == null) {
             return FAULT;
         }
         Generation top = history.top();
         for (int k = 0; k < top.size(); k++) {
-            if (top.at(k).owns(path)) {
+            if (top.at(k).owns(path, 0)) {
                 return top.at(k).number;
             }
         }
@@ -314,7 +314,6 @@ public final class PackageKeeper {
         private int behind;
         /** How far the word has been read, while a version is. */
         private int at;
-        private final StringBuilder path = new StringBuilder();
 
         Reader(Tape tape) {
             this.tape = tape;
@@ -366,20 +365,23 @@ public final class PackageKeeper {
             return null;
         }
 
-        String readPath() {
+        /** A path as so many longs as the longest one takes, null if the word is none. */
+        long[] readPath() {
             if (behind - first < 1 || behind - first > MOST_OF_PATH) {
                 return null;
             }
-            path.setLength(0);
             for (int i = first; i < behind; i++) {
                 char c = tape.at(i);
                 if (!isMarkByte(c) && c != '.' && c != '/') {
                     return null;
                 }
-                path.append(c);
+            }
+            long[] path = new long[Release.LONGS_OF_A_PATH];
+            for (int i = 0; i < path.length; i++) {
+                path[i] = packed(first + i * MOST_OF_WORD, behind);
             }
             nextWord();
-            return path.toString();
+            return path;
         }
 
         Release readRelease(int number) {
@@ -500,7 +502,10 @@ public final class PackageKeeper {
             return number;
         }
 
-        /** At most eight bytes as one long, the first the highest, so that longs are in the order of the texts. */
+        /**
+         * Eight bytes from start on as one long, zeros where the text has stopped, the first the highest, so that
+         * longs are in the order of the texts.
+         */
         private long packed(int start, int stop) {
             long all = 0;
             for (int i = start; i < start + MOST_OF_WORD; i++) {
@@ -728,13 +733,16 @@ public final class PackageKeeper {
         private static final int MOST_BREAKS = 3;
         private static final int MOST_PATHS = 4;
         private static final int MOST_CLAUSES = MOST_NEEDS + MOST_BREAKS + MOST_PATHS;
+        /** Of eight bytes each, for the twenty that a path has at most. */
+        private static final int LONGS_OF_A_PATH = 3;
 
         private final int number;
         private final long name;
         private final Version version;
         private final Demands needs;
         private final Demands breaks;
-        private final String[] paths;
+        /** The longs of path p begin at p * LONGS_OF_A_PATH. */
+        private final long[] paths;
         private int pathCount;
 
         Release(int number, long name, Version version) {
@@ -743,21 +751,26 @@ public final class PackageKeeper {
             this.version = version;
             needs = new Demands(MOST_NEEDS);
             breaks = new Demands(MOST_BREAKS);
-            paths = new String[MOST_PATHS];
+            paths = new long[MOST_PATHS * LONGS_OF_A_PATH];
         }
 
-        boolean addPath(String path) {
+        boolean addPath(long[] path) {
             if (path == null || pathCount == MOST_PATHS) {
                 return false;
             }
-            paths[pathCount] = path;
+            System.arraycopy(path, 0, paths, pathCount * LONGS_OF_A_PATH, LONGS_OF_A_PATH);
             pathCount++;
             return true;
         }
 
-        boolean owns(String path) {
+        /** Whether it owns the path whose longs begin at a place of a row. */
+        boolean owns(long[] row, int from) {
             for (int i = 0; i < pathCount; i++) {
-                if (paths[i].equals(path)) {
+                boolean isSame = true;
+                for (int j = 0; j < LONGS_OF_A_PATH && isSame; j++) {
+                    isSame = paths[i * LONGS_OF_A_PATH + j] == row[from + j];
+                }
+                if (isSame) {
                     return true;
                 }
             }
@@ -766,7 +779,7 @@ public final class PackageKeeper {
 
         boolean sharesPathWith(Release other) {
             for (int i = 0; i < pathCount; i++) {
-                if (other.owns(paths[i])) {
+                if (other.owns(paths, i * LONGS_OF_A_PATH)) {
                     return true;
                 }
             }
