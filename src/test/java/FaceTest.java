@@ -2,16 +2,11 @@ import java.lang.reflect.Constructor;
 import java.lang.reflect.Field;
 import java.lang.reflect.Method;
 import java.lang.reflect.Modifier;
-import java.util.ArrayList;
 import java.util.Arrays;
-import java.util.List;
 import java.util.Random;
 import java.util.TreeSet;
 
-/**
- * The class has the document's face and nothing else, fields of the types that LANGUAGE.md leaves, and no call throws,
- * whatever its arguments are.
- */
+/** The class has the document's face and nothing else, and no call throws, whatever its arguments are. */
 public final class FaceTest {
     private static final String[] FACE = {
         "best(int)", "compare()", "count(int)", "current(int, int)", "drop(int)", "end(int)",
@@ -27,7 +22,6 @@ public final class FaceTest {
     public static void main(String[] args) throws ReflectiveOperationException {
         constants();
         members();
-        fieldTypes(PackageKeeper.class);
         anyArguments();
         Check.finish();
     }
@@ -69,35 +63,6 @@ public final class FaceTest {
         same("constructors", constructors.length, 1);
         same("constructor", constructors[0].getParameterCount(), 0);
         same("constructor", Modifier.toString(constructors[0].getModifiers()), "public");
-    }
-
-    /** Rule 3 of LANGUAGE.md: no array but of numbers (and boolean) and of classes of the program's own. */
-    private static void fieldTypes(Class<?> type) {
-        for (Field field : type.getDeclaredFields()) {
-            if (!field.isSynthetic()) {
-                same(type.getName() + "." + field.getName() + " is of a type that is left", isLeft(field), true);
-            }
-        }
-        for (Class<?> inside : type.getDeclaredClasses()) {
-            same(inside.getName() + " is static", Modifier.isStatic(inside.getModifiers()), true);
-            fieldTypes(inside);
-        }
-    }
-
-    private static boolean isLeft(Field field) {
-        Class<?> type = field.getType();
-        if (type.isArray()) {
-            Class<?> element = type.getComponentType();
-            return element.isPrimitive() || isOwn(element)
-                    || element.isArray() && element.getComponentType().isPrimitive();
-        }
-        boolean isOfGeneric = type == Object.class && field.getGenericType() != Object.class;
-        return type.isPrimitive() || isOwn(type) || isOfGeneric || type == String.class || type == StringBuilder.class
-                || type == List.class || type == ArrayList.class;
-    }
-
-    private static boolean isOwn(Class<?> type) {
-        return type == PackageKeeper.class || type.getName().startsWith("PackageKeeper$");
     }
 
     /** Also far beyond 512 calls, where answers are free but no call may throw. */

@@ -17,6 +17,9 @@ public final class SentencesTest {
         brokenNamesAreNotReached();
         earlierGenerationsKeepWhatIsDropped();
         pathsAreNoTrees();
+        faultsToTheLastByte();
+        cutTapeIsAsAShortOne();
+        everyChoiceAndTestCounts();
         Check.finish();
     }
 
@@ -131,5 +134,77 @@ public final class SentencesTest {
         for (int i = 0; i < paths.length; i++) {
             probe.owner(paths[i], owners[i]);
         }
+    }
+
+    private static void faults(ToIntFunction<Probe> call, String... texts) {
+        for (String text : texts) {
+            String full = " ".repeat(400 - text.length()) + text;
+            Check.due("full tape with \"" + text + "\"", call.applyAsInt(new Probe().put(full)), FAULT);
+            Check.due("tape with \"" + text + "\"", call.applyAsInt(new Probe().put(text)), FAULT);
+        }
+    }
+
+    /** "FAULT if it is not that": also if the text stops short at the 400th byte, behind which there is nothing. */
+    private static void faultsToTheLastByte() {
+        faults(Probe::release, "a", "a 1", "a 1.0.", "a 1.0.0-", "a 1.0.0 needs", "a 1.0.0 needs b",
+                "a 1.0.0 needs b <", "a 1.0.0 breaks b >", "a 1.0.0 breaks b * ||", "a 1.0.0 owns");
+        faults(Probe::want, "a", "a <", "a >", "a =", "a ^", "a ~", "a <=", "a >=", "a * ||", "a 1.0.", "a 1.0.0-a.");
+        faults(Probe::unwant, "A", "needs", "a b", "a <");
+        faults(Probe::owner, "_", "p q", "p <");
+        faults(Probe::compare, "1.0.0", "1.0.0 1", "1.0.0 1.0.", "1.0.0 1.0.0-", "1.0.0 <");
+        faults(Probe::match, "1.0.0", "1.0.0 <", "1.0.0 >", "1.0.0 =", "1.0.0 ^", "1.0.0 ~", "1.0.0 <=", "1.0.0 >=",
+                "1.0.0 * ||", "1.0.0 * |", "1.0.0 <1.", "1.0.0 <1.0.0-");
+    }
+
+    /** "The TAPE is cut to its first n bytes": none of the bytes behind them is read, whatever they were. */
+    private static void cutTapeIsAsAShortOne() {
+        cutEverywhere("aa 1.10.10-aa.10 needs bb >=1.0.0 || <=2.0.0-b breaks cc ^1.0.0 * owns needs", Probe::release);
+        cutEverywhere("aa >=10.10.10-aa.bb <=20.0.0 * || ~10.10.10 || *", Probe::want);
+        cutEverywhere("needsneeds", Probe::unwant);
+        cutEverywhere("usr/lib/a-1.0/b.c_", Probe::owner);
+        cutEverywhere("10.10.10-aa.10.-b  10.10.10-aa.10.-c", Probe::compare);
+        cutEverywhere("10.10.10 >=10.10.10 <=10.10.11-a || >10.10.9 || =10.10.10 * ", Probe::match);
+    }
+
+    private static void cutEverywhere(String text, ToIntFunction<Probe> call) {
+        for (int n = 0; n <= text.length(); n++) {
+            Probe cut = new Probe().put(text);
+            Check.due("end", cut.end(n), n);
+            int due = call.applyAsInt(new Probe().put(text.substring(0, n)));
+            Check.due("\"" + text + "\" cut to " + n, call.applyAsInt(cut), due);
+        }
+    }
+
+    /** "A version is IN a range if all tests of one choice hold": in the ranges of roots, needs and breaks too. */
+    private static void everyChoiceAndTestCounts() {
+        String choices = "1.0.0 || 2.0.0 || 3.0.0 || 4.0.0";
+        for (int major = 0; major <= 5; major++) {
+            isInAll(major + ".0.0", choices, major >= 1 && major <= 4);
+        }
+        // What a test of one choice keeps out is in the range if another choice has it.
+        String tests = ">0.1.0 <0.9.0 ^0.5.0-a <=0.5.5";
+        String[] outside = {"0.1.0", "0.9.0", "0.4.9", "0.5.6", "0.5.0-0"};
+        for (String version : outside) {
+            isInAll(version, tests, false);
+            isInAll(version, tests + " || " + version, true);
+            isInAll(version, version + " || " + tests, true);
+        }
+        isInAll("0.5.0-a", tests, true);
+        isInAll("0.5.5", tests, true);
+        isInAll("0.5.5", "9.0.0 || " + tests + " || 8.0.0", true);
+        // One test that does not hold is enough, whichever of the four it is.
+        isInAll("1.0.1", ">=1.0.1 * * *", true);
+        isInAll("1.0.1", ">1.0.1 * * *", false);
+        isInAll("1.0.1", "* >1.0.1 * *", false);
+        isInAll("1.0.1", "* * >1.0.1 *", false);
+        isInAll("1.0.1", "* * * >1.0.1", false);
+    }
+
+    private static void isInAll(String version, String range, boolean isIn) {
+        String other = "b " + version;
+        new Probe().match(version + " " + range, isIn ? 1 : 0);
+        Probe.withReleases(other).wanting("b " + range).best(-1, isIn ? 1 : NONE);
+        Probe.withReleases("a 1.0.0 needs b " + range, other).wanting("a *").best(-1, isIn ? 2 : NONE);
+        Probe.withReleases("a 1.0.0 breaks b " + range, other).wanting("a *", "b *").best(-1, isIn ? NONE : 2);
     }
 }

@@ -128,6 +128,11 @@ public final class VersionBoundariesTest {
         isNoVersion("1..1");
         isNoVersion("1..1.1");
         isNoVersion("1.1..1");
+        isNoVersion(".1");
+        isNoVersion("01.1");
+        isNoVersion("1000000000.1");
+        isNoVersion("..1");
+        isNoVersion("1.01");
         isNoVersion("1-a");
         isNoVersion("1.1-a");
         isNoVersion("1.1.-a");
